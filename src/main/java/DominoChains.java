@@ -116,11 +116,11 @@ public final class DominoChains {
     }
 
     public boolean isRoundOver() {
-        return match.isDone();
+        return match.state.over;
     }
 
     public boolean isMatchOver() {
-        return match.isLastRound() && match.isDone();
+        return match.isLastRound() && match.state.over;
     }
 
     public int roundWinner(int round) throws IndexOutOfBoundsException {
@@ -134,7 +134,7 @@ public final class DominoChains {
     }
 
     public int matchWinner() {
-        if (!match.isLastRound() || !match.isDone()) {
+        if (!match.isLastRound() || !match.state.over) {
             return NONE;
         }
         int lead = match.winsOf(0) - match.winsOf(1);
@@ -311,7 +311,7 @@ public final class DominoChains {
     }
 
     public int optimalMove() throws NoSuchElementException {
-        if (match.isDone()) {
+        if (match.state.over) {
             throw new NoSuchElementException("the round is over");
         }
         solver.solveOptimal(match);
@@ -319,7 +319,7 @@ public final class DominoChains {
     }
 
     public int worstMove() throws NoSuchElementException {
-        if (match.isDone()) {
+        if (match.state.over) {
             throw new NoSuchElementException("the round is over");
         }
         solver.solveOptimal(match);
@@ -340,7 +340,7 @@ public final class DominoChains {
     }
 
     public boolean isPassForced() {
-        if (match.isDone()) {
+        if (match.state.over) {
             return false;
         }
         return countBest() == 1 && match.codeOfMove(firstBest(match)) == PASS_CODE;
@@ -397,10 +397,10 @@ public final class DominoChains {
         return count;
     }
 
+    // Wants the round solved already.
     private int playBest(Match which, int most) {
-        solver.solveOptimal(which);
         int made = 0;
-        while (made < most && !which.isDone()) {
+        while (made < most && !which.state.over) {
             which.play(which.codeOfMove(firstBest(which)));
             made++;
         }
@@ -409,6 +409,7 @@ public final class DominoChains {
 
     // The line is then what the trial's log has beyond the log of the match.
     private void tryOptimalLine() {
+        solver.solveOptimal(match);
         trial.copyFrom(match);
         playBest(trial, MOST_LOGGED);
     }
@@ -425,7 +426,7 @@ public final class DominoChains {
 
     public int greedyDifference() {
         trial.copyFrom(match);
-        for (int made = 0; made < MOST_LOGGED && !trial.isDone(); made++) {
+        for (int made = 0; made < MOST_LOGGED && !trial.state.over; made++) {
             trial.play(trial.codeOfMove(trial.greediestMove()));
         }
         int player = match.state.mover;
@@ -435,7 +436,7 @@ public final class DominoChains {
     }
 
     public int differenceAgainstGreedy() {
-        if (match.isDone()) {
+        if (match.state.over) {
             return 0;
         }
         solver.solveGreedy(match);
@@ -443,7 +444,7 @@ public final class DominoChains {
     }
 
     public int greedyAgainstBest() {
-        if (match.isDone()) {
+        if (match.state.over) {
             return 0;
         }
         solver.solveGreedy(match);
@@ -454,7 +455,7 @@ public final class DominoChains {
 
     public int burn(int chain, boolean left) throws IndexOutOfBoundsException, IllegalStateException {
         needChain(chain);
-        if (match.isDone() || match.lengthNow(chain) < 2) {
+        if (match.state.over || match.lengthNow(chain) < 2) {
             throw new IllegalStateException("nothing can be burnt there");
         }
         int code = burnCode(chain, left);
@@ -465,12 +466,12 @@ public final class DominoChains {
     }
 
     public boolean pass() throws IllegalStateException {
-        if (match.isDone()) {
+        if (match.state.over) {
             throw new IllegalStateException("the round is over");
         }
         history.remember(match.state);
         match.play(PASS_CODE);
-        return match.isDone();
+        return match.state.over;
     }
 
     public int playOptimally(int most) throws IllegalArgumentException {
@@ -478,11 +479,12 @@ public final class DominoChains {
             throw new IllegalArgumentException("no such number of moves");
         }
         history.remember(match.state);
+        solver.solveOptimal(match);
         return playBest(match, most);
     }
 
     public int startNextRound() throws IllegalStateException {
-        if (!match.isDone() || match.isLastRound()) {
+        if (!match.state.over || match.isLastRound()) {
             throw new IllegalStateException("no round can be started");
         }
         history.remember(match.state);
@@ -630,6 +632,7 @@ public final class DominoChains {
         final int[] lengths = new int[MOST_ROUNDS * MOST_CHAINS];
         final int[] lefts = new int[MOST_ROUNDS * MOST_CHAINS * MOST_TILES];
         final int[] rights = new int[MOST_ROUNDS * MOST_CHAINS * MOST_TILES];
+        final int[] points = new int[MOST_ROUNDS * MOST_CHAINS * MOST_TILES];
 
         void copyFrom(Layout other) {
             rounds = other.rounds;
@@ -637,6 +640,7 @@ public final class DominoChains {
             copyRow(other.lengths, lengths);
             copyRow(other.lefts, lefts);
             copyRow(other.rights, rights);
+            copyRow(other.points, points);
         }
 
         void clear() {
@@ -659,47 +663,15 @@ public final class DominoChains {
             int round = rounds - 1;
             int chain = at(chains, round) - 1;
             int length = lengthOf(round, chain);
-            put(lefts, slotOf(round, chain, length), left);
-            put(rights, slotOf(round, chain, length), right);
+            int slot = slotOf(round, chain, length);
+            put(lefts, slot, left);
+            put(rights, slot, right);
+            put(points, slot, left == right ? 2 * (left + right) : left + right);
             put(lengths, round * MOST_CHAINS + chain, length + 1);
-        }
-
-        int openChains() {
-            return at(chains, rounds - 1);
-        }
-
-        int openLength() {
-            return lengthOf(rounds - 1, openChains() - 1);
-        }
-
-        int openRight() {
-            return at(rights, slotOf(rounds - 1, openChains() - 1, openLength() - 1));
-        }
-
-        boolean openRoundHolds(int left, int right) {
-            int round = rounds - 1;
-            for (int chain = 0; chain < openChains(); chain++) {
-                for (int tile = 0; tile < lengthOf(round, chain); tile++) {
-                    int slot = slotOf(round, chain, tile);
-                    int low = at(lefts, slot);
-                    int high = at(rights, slot);
-                    if (low == left && high == right || low == right && high == left) {
-                        return true;
-                    }
-                }
-            }
-            return false;
         }
 
         int lengthOf(int round, int chain) {
             return chain < at(chains, round) ? at(lengths, round * MOST_CHAINS + chain) : 0;
-        }
-
-        int pointsOf(int round, int chain, int tile) {
-            int slot = slotOf(round, chain, tile);
-            int left = at(lefts, slot);
-            int right = at(rights, slot);
-            return left == right ? 2 * (left + right) : left + right;
         }
 
         int slotOf(int round, int chain, int tile) {
@@ -713,6 +685,7 @@ public final class DominoChains {
         int starter;
         int mover;
         int passesInARow;
+        boolean over;
         int logged;
         final int[] first = new int[MOST_CHAINS];
         final int[] last = new int[MOST_CHAINS];
@@ -727,6 +700,7 @@ public final class DominoChains {
             starter = other.starter;
             mover = other.mover;
             passesInARow = other.passesInARow;
+            over = other.over;
             logged = other.logged;
             copyRow(other.first, first);
             copyRow(other.last, last);
@@ -795,6 +769,7 @@ public final class DominoChains {
                 put(state.first, chain, 0);
                 put(state.last, chain, Math.max(0, layout.lengthOf(round, chain) - 1));
             }
+            state.over = burnsNow() == 0;
         }
 
         void beginNext() {
@@ -804,10 +779,6 @@ public final class DominoChains {
 
         boolean isLastRound() {
             return state.round == layout.rounds - 1;
-        }
-
-        boolean isDone() {
-            return state.passesInARow > 1 || burnsNow() == 0;
         }
 
         int chainsNow() {
@@ -820,22 +791,26 @@ public final class DominoChains {
 
         int burnsNow() {
             int burns = 0;
-            for (int chain = 0; chain < chainsNow(); chain++) {
-                burns += lengthNow(chain) - 1;
+            for (int chain = 0; chain < MOST_CHAINS; chain++) {
+                burns += at(state.last, chain) - at(state.first, chain);
             }
             return burns;
         }
 
+        private int slotNow(int chain, int tile) {
+            return layout.slotOf(state.round, chain, at(state.first, chain) + tile);
+        }
+
         int leftNow(int chain, int tile) {
-            return at(layout.lefts, layout.slotOf(state.round, chain, at(state.first, chain) + tile));
+            return at(layout.lefts, slotNow(chain, tile));
         }
 
         int rightNow(int chain, int tile) {
-            return at(layout.rights, layout.slotOf(state.round, chain, at(state.first, chain) + tile));
+            return at(layout.rights, slotNow(chain, tile));
         }
 
         int pointsNow(int chain, int tile) {
-            return layout.pointsOf(state.round, chain, at(state.first, chain) + tile);
+            return at(layout.points, slotNow(chain, tile));
         }
 
         int pointsOfChain(int chain) {
@@ -871,7 +846,7 @@ public final class DominoChains {
         }
 
         int winnerOf(int round) {
-            boolean over = round < state.round || round == state.round && isDone();
+            boolean over = round < state.round || round == state.round && state.over;
             return over ? leader(scoreOf(round, 0) - scoreOf(round, 1)) : NONE;
         }
 
@@ -887,7 +862,7 @@ public final class DominoChains {
 
         int greatestOf(int player) {
             int score = scoreNow(player);
-            if (isDone()) {
+            if (state.over) {
                 return score;
             }
             for (int chain = 0; chain < chainsNow(); chain++) {
@@ -897,7 +872,7 @@ public final class DominoChains {
         }
 
         int movesNow() {
-            if (isDone()) {
+            if (state.over) {
                 return 0;
             }
             int moves = 1;
@@ -910,7 +885,7 @@ public final class DominoChains {
         }
 
         int codeOfMove(int move) {
-            if (move < 0 || isDone()) {
+            if (move < 0 || state.over) {
                 return NONE;
             }
             int rest = move;
@@ -931,7 +906,7 @@ public final class DominoChains {
             }
             int chain = chainOfCode(code);
             int[] ends = isLeftCode(code) ? state.first : state.last;
-            return layout.pointsOf(state.round, chain, at(ends, chain));
+            return at(layout.points, layout.slotOf(state.round, chain, at(ends, chain)));
         }
 
         int greediestMove() {
@@ -962,6 +937,7 @@ public final class DominoChains {
             }
             state.log(code, points);
             state.mover = 1 - state.mover;
+            state.over = state.passesInARow > 1 || burnsNow() == 0;
         }
 
         private void takeEnd(int code) {
@@ -1040,8 +1016,10 @@ public final class DominoChains {
             int span = 0;
             for (int high = 0; high < MOST_TILES; high++) {
                 for (int low = high; low >= 0; low--) {
-                    put(lowOfSpan, span, low);
-                    put(highOfSpan, span, high);
+                    if (span < lowOfSpan.length && span < highOfSpan.length) {
+                        lowOfSpan[span] = low;
+                        highOfSpan[span] = high;
+                    }
                     span++;
                 }
             }
@@ -1080,7 +1058,7 @@ public final class DominoChains {
         }
 
         int optimalOf(Match match) {
-            return match.isDone() ? 0 : at(optimal, placeAt(match));
+            return match.state.over ? 0 : at(optimal, placeAt(match));
         }
 
         int optimalOfChain(Match match, int chain) {
@@ -1094,8 +1072,7 @@ public final class DominoChains {
                 return match.state.passesInARow > 0 ? 0 : -at(optimal, position);
             }
             int chain = chainOfCode(code);
-            int after = isLeftCode(code) ? afterLeft(position, chain) : afterRight(position, chain);
-            return match.pointsOfCode(code) - at(optimal, after);
+            return isLeftCode(code) ? leftValue(position, chain) : rightValue(position, chain);
         }
 
         int againstGreedy(Match match) {
@@ -1120,7 +1097,8 @@ public final class DominoChains {
                 put(weights, chain, positions);
                 positions *= at(spanCounts, chain);
                 for (int tile = 0; tile < length; tile++) {
-                    put(points, chain * MOST_TILES + tile, match.layout.pointsOf(round, chain, tile));
+                    int slot = match.layout.slotOf(round, chain, tile);
+                    put(points, chain * MOST_TILES + tile, at(match.layout.points, slot));
                 }
             }
             shapedRound = round;
@@ -1184,21 +1162,27 @@ public final class DominoChains {
             int most = 0;
             for (int chain = 0; chain < MOST_CHAINS; chain++) {
                 if (isBurnable(chain)) {
-                    int left = leftPoints(chain) - at(optimal, afterLeft(position, chain));
-                    int right = rightPoints(chain) - at(optimal, afterRight(position, chain));
-                    most = Math.max(most, Math.max(left, right));
+                    most = Math.max(most, leftValue(position, chain));
+                    most = Math.max(most, rightValue(position, chain));
                 }
             }
             return most;
+        }
+
+        private int leftValue(int position, int chain) {
+            return leftPoints(chain) - at(optimal, afterLeft(position, chain));
+        }
+
+        private int rightValue(int position, int chain) {
+            return rightPoints(chain) - at(optimal, afterRight(position, chain));
         }
 
         private int aheadHere(int position, int passValue) {
             int most = passValue;
             for (int chain = 0; chain < MOST_CHAINS; chain++) {
                 if (isBurnable(chain)) {
-                    int left = leftPoints(chain) + at(behind, afterLeft(position, chain));
-                    int right = rightPoints(chain) + at(behind, afterRight(position, chain));
-                    most = Math.max(most, Math.max(left, right));
+                    most = Math.max(most, leftPoints(chain) + at(behind, afterLeft(position, chain)));
+                    most = Math.max(most, rightPoints(chain) + at(behind, afterRight(position, chain)));
                 }
             }
             return most;
@@ -1249,7 +1233,7 @@ public final class DominoChains {
                 start++;
             }
             next = start;
-            kind = kindHere();
+            kind = start < end ? kindOf(at(bytes, start)) : END;
             if (kind == WORD || kind == DIGITS) {
                 while (next < end && kindOf(at(bytes, next)) == kind) {
                     next++;
@@ -1279,10 +1263,6 @@ public final class DominoChains {
             return at(bytes, start + index) - '0';
         }
 
-        private int kindHere() {
-            return start < end ? kindOf(at(bytes, start)) : END;
-        }
-
         private static boolean isBlank(int sign) {
             return sign == ' ' || sign == '\n';
         }
@@ -1305,6 +1285,9 @@ public final class DominoChains {
     private static final class Parser {
         final Match draft = new Match();
         final Scanner scanner = new Scanner();
+        // Marks the tiles of the open round, each in both directions.
+        final int[] seen = new int[(MOST_PIPS + 1) * (MOST_PIPS + 1)];
+        int openRight;
         int faultKind;
         int faultPosition;
 
@@ -1340,6 +1323,9 @@ public final class DominoChains {
 
         private boolean readRound() {
             draft.layout.openRound();
+            for (int i = 0; i < seen.length; i++) {
+                seen[i] = 0;
+            }
             for (int chain = 0; chain < MOST_CHAINS; chain++) {
                 scanner.step();
                 draft.layout.openChain();
@@ -1362,33 +1348,43 @@ public final class DominoChains {
                 return fail(SYNTAX_ERROR);
             }
             for (int tile = 0; tile <= MOST_TILES && scanner.kind == Scanner.DIGITS; tile++) {
-                int fault = tileFault();
+                int fault = tileFault(tile);
                 if (fault != NO_ERROR) {
                     return fail(fault);
                 }
-                draft.layout.addTile(scanner.digit(0), scanner.digit(1));
+                takeTile(scanner.digit(0), scanner.digit(1));
                 scanner.step();
             }
             return true;
         }
 
-        private int tileFault() {
+        private int tileFault(int tile) {
             if (!scanner.isRun(2)) {
                 return SYNTAX_ERROR;
             }
-            Layout layout = draft.layout;
             int left = scanner.digit(0);
             int right = scanner.digit(1);
             if (left > MOST_PIPS || right > MOST_PIPS) {
                 return INVALID_PIPS;
             }
-            if (layout.openLength() > 0 && layout.openRight() != left) {
+            if (tile > 0 && left != openRight) {
                 return MISMATCH;
             }
-            if (layout.openRoundHolds(left, right)) {
+            if (at(seen, pairOf(left, right)) != 0) {
                 return DUPLICATE_TILE;
             }
-            return layout.openLength() < MOST_TILES ? NO_ERROR : TOO_MANY;
+            return tile < MOST_TILES ? NO_ERROR : TOO_MANY;
+        }
+
+        private void takeTile(int left, int right) {
+            draft.layout.addTile(left, right);
+            put(seen, pairOf(left, right), 1);
+            put(seen, pairOf(right, left), 1);
+            openRight = right;
+        }
+
+        private static int pairOf(int left, int right) {
+            return left * (MOST_PIPS + 1) + right;
         }
 
         private boolean readMove() {
@@ -1413,7 +1409,7 @@ public final class DominoChains {
                 return fail(SYNTAX_ERROR);
             }
             int chain = scanner.digit(0);
-            if (draft.isDone() || chain >= draft.chainsNow() || draft.lengthNow(chain) < 2) {
+            if (draft.state.over || chain >= draft.chainsNow() || draft.lengthNow(chain) < 2) {
                 return fail(INVALID_MOVE);
             }
             if (!readSemicolon()) {
@@ -1424,7 +1420,7 @@ public final class DominoChains {
         }
 
         private boolean readPass() {
-            if (draft.isDone()) {
+            if (draft.state.over) {
                 return fail(INVALID_MOVE);
             }
             if (!readSemicolon()) {
@@ -1435,7 +1431,7 @@ public final class DominoChains {
         }
 
         private boolean readNext() {
-            if (!draft.isDone() || draft.isLastRound()) {
+            if (!draft.state.over || draft.isLastRound()) {
                 return fail(INVALID_MOVE);
             }
             if (!readSemicolon()) {
