@@ -9,6 +9,7 @@ public final class OptimalPlayTest {
         ties();
         chainsApart();
         lead();
+        firstCalls();
         wrongInputs();
         Check.end();
     }
@@ -117,6 +118,25 @@ public final class OptimalPlayTest {
         Check.same("the lead after a pass", game.expectedLead(), 9 + 24);
         game.pass();
         Check.same("the lead when over", game.expectedLead(), -9);
+    }
+
+    // No call may lean on what a call before it has found out, for this or for an earlier match.
+    private static void firstCalls() {
+        String text = "round 62 24 45;";
+        Check.same("first call: value", Check.game(text).moveValue(1), 1);
+        Check.same("first call: optimal", Check.game(text).optimalMove(), 1);
+        Check.same("first call: worst", Check.game(text).worstMove(), 0);
+        Check.same("first call: count", Check.game(text).optimalMoveCount(), 1);
+        Check.same("first call: line score", Check.game(text).optimalLineScore(1), 8);
+        Check.same("first call: chain", Check.game(text).chainDifference(0), 1);
+        Check.same("first call: lead", Check.game(text).expectedLead(), 1);
+        Check.same("first call: forced", Check.game("round 36 66 61;").isPassForced(), true);
+        DominoChains game = Check.game(text);
+        Check.same("the earlier match", game.optimalDifference() + " " + game.differenceAgainstGreedy(), "1 1");
+        Check.type(game, 0, "round 12 23;");
+        game.load();
+        Check.same("the match that is loaded then", game.optimalDifference(), 5);
+        Check.same("the same against a greedy player", game.differenceAgainstGreedy(), 5);
     }
 
     private static void wrongInputs() {

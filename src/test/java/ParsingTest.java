@@ -123,6 +123,14 @@ public final class ParsingTest {
         bad("rounds 12;", kind, 0);
         bad("roun 12;", kind, 0);
         bad("roundround 12;", kind, 0);
+        bad("rounda 12;", kind, 0);
+        bad("roundz 12;", kind, 0);
+        bad("zround 12;", kind, 0);
+        bad("round 12 23;passa;", kind, 12);
+        bad("round 12 23;passz;", kind, 12);
+        bad("round 12 23;lefta0;", kind, 12);
+        bad("round 12 23;abcdefghi;", kind, 12);
+        bad("round11;round11;round11;round11;roundabcd", kind, 32);
         bad("Round 12;", kind, 0);
         bad("round", kind, 5);
         bad("round \n", kind, 7);
