@@ -21,6 +21,7 @@ final class ChainEdges {
         remainingScore();
         tilesWith();
         doubleCount();
+        lastRound();
     }
 
     private static Start one(String tiles) {
@@ -252,5 +253,21 @@ final class ChainEdges {
                 .tells("a double burnt", THREE.then(game -> game.burn(2, true)), count, 2)
                 .tells("another tile burnt", THREE.then(game -> game.burn(1, true)), count, 3)
                 .tells("undone", THREE.then(game -> game.burn(2, true), game -> game.undo()), count, 3);
+    }
+
+    // The last chain of the last round, as far from the first one as a tile can be.
+    private static void lastRound() {
+        String round = "round 02 24 44 40 05 55 51 14,06 66 61 13 34 45 52 26,00 01 11 12 22 23 33 30;";
+        Start last = Start.text("round 11;round 11;round 11;" + round + "next;next;next;");
+        Sentence.of(22, "Returns the left pip value of a tile")
+                .each("last round", last, (game, tile) -> game.leftPips(2, tile), 0, 0, 1, 1, 2, 2, 3, 3);
+        Sentence.of(23, "Returns the right pip value of a tile")
+                .each("last round", last, (game, tile) -> game.rightPips(2, tile), 0, 1, 1, 2, 2, 3, 3, 0);
+        Sentence.of(24, "Returns the score of a tile")
+                .each("last round", last, (game, tile) -> game.tileScore(2, tile), 0, 1, 4, 3, 8, 5, 12, 3);
+        Sentence.of(25, "Returns the sum of the scores of all tiles that a chain has now")
+                .each("last round", last, (game, chain) -> game.chainScore(chain), 64, 72, 36);
+        Sentence.of(26, "Returns the sum of the scores of all tiles that the chains have now")
+                .tells("last round", last, game -> game.remainingScore(), 172);
     }
 }

@@ -3,12 +3,16 @@ import java.util.NoSuchElementException;
 /** The boundaries of promises 51 to 54: the greedy player. */
 final class GreedyEdges {
     private static final Start[] OVER = {Start.text("round 11;"), Start.text("round 12 23;left 0;"),
-        Start.text("round 36 66 61;pass;pass;"), Start.text("round 11,22;round 12 23;")};
+        Start.text("round 36 66 61;pass;pass;"), Start.text("round 11,22;round 12 23;"),
+        Start.text("round 12 23;pass;pass;")};
     private static final Start TWO = Start.text("round 12 23;");
     private static final Start TWO_PASS = Start.text("round 12 23;pass;");
     // Scores 9, 24, 7: whoever burns gives 24 away.
     private static final Start STUCK = Start.text("round 36 66 61;");
     private static final Start STUCK_PASS = Start.text("round 36 66 61;pass;");
+    // The most tiles that a round can have; what is due is what the reference answers.
+    private static final Start MOST = Start.text("round 00 01 11 12 22 23 33 30, 02 24 44 40 05 55 51 14, "
+            + "06 66 61 13 34 45 52 26;");
     private static final Start LATE = STUCK.then(game -> game.burn(0, true));
 
     private GreedyEdges() {
@@ -65,7 +69,8 @@ final class GreedyEdges {
         Sentence.of(51, "Returns its index in the order of moves")
                 .tells("past a single chain", Start.text("round 11,22,34 45;"), move, 1)
                 .tells("the third of six", Start.text("round 12 23,33 30,45 56;"), move, 2)
-                .tells("the last of six", Start.text("round 12 23,34 46,45 56;"), move, 5);
+                .tells("the last of six", Start.text("round 12 23,34 46,45 56;"), move, 5)
+                .tells("three chains of 8", MOST, move, 5);
         Sentence none = Sentence.of(51, "Throws `NoSuchElementException` if the round is over")
                 .tells("one move before", TWO_PASS, move, 1);
         for (Start over : OVER) {
@@ -83,6 +88,7 @@ final class GreedyEdges {
                 .tells("two burns", STUCK, difference, 9 - 24)
                 .tells("a pass before it", STUCK_PASS, difference, 9 - 24)
                 .tells("the last burn", LATE, difference, 24)
+                .tells("three chains of 8", MOST, difference, -28)
                 .tells("what both have does not count", Start.text("round 12 23 36 66;left 0;left 0;"), difference, 24)
                 .tells("without the round before", Start.text("round 66 61;round 12 23;left 0;next;"), difference, 5);
         whenOver(Sentence.of(52, "0 if the round is over"), difference);
@@ -100,6 +106,7 @@ final class GreedyEdges {
                 .tells("a burn after the pass", Start.text("round 36 66 61,12 23;pass;right 1;"), difference, 24 - 9)
                 .tells("two passes of the round before", Start.text("round 12 23;round 36 66 61;pass;pass;next;"),
                         difference, 24 - 9)
+                .tells("three chains of 8", MOST, difference, 57)
                 .tells("the last burn", LATE, difference, 24);
         whenOver(Sentence.of(53, "0 if the round is over"), difference);
     }
@@ -113,6 +120,7 @@ final class GreedyEdges {
                 .tells("the greedy player does not pass", STUCK, difference, 9 - 24)
                 .tells("nor after a pass", STUCK_PASS, difference, 9 - 24)
                 .tells("the last burn", LATE, difference, 24)
+                .tells("three chains of 8", MOST, difference, -46)
                 .tells("the opponent burns all along", Start.text("round 12 23,36 66 61;"), difference, 9 - 24 + 5)
                 .tells("the opponent passes", Start.text("round 36 66 61,55 50;"), difference, 20 + 9 - 24);
         whenOver(Sentence.of(54, "0 if the round is over"), difference);

@@ -126,8 +126,13 @@ final class InputEdges {
                 .same("nothing of the match before is left",
                         View.whole(busy.typing("round 11 12;right 0;").then(LOAD)),
                         View.whole(Start.text("round 11 12;right 0;")))
+                .answers("optimal play of the match before", busy.then(game -> game.optimalDifference())
+                        .typing("round 36 66 61;").then(LOAD), game -> game.moveValue(0), -15)
+                .answers("the greedy player of the match before", busy.then(game -> game.greedyAgainstBest())
+                        .typing("round 36 66 61;").then(LOAD), game -> game.differenceAgainstGreedy(), 15)
                 .answers("the text of a new object", busy.typing("round 12 26 63, 05 55 51;").then(LOAD),
                         game -> game.burn(0, true), 3);
+        loadAgain();
         Sentence empty = Sentence.of(4, "The input buffer is empty afterwards, with or without an error");
         for (String text : new String[] {"", " ", "round 12;", "round 12;x", "round 12;" + " ".repeat(491),
             "x" + " ".repeat(499)}) {
@@ -156,6 +161,20 @@ final class InputEdges {
                         DominoChains::loggedMoveCount, 0);
         Sentence.of(4, "Returns the number of rounds").loads("round 11;", 1).loads("round 11;round 11;", 2)
                 .loads("round 11;round 11;round 11;", 3).loads("round 11;round 11;round 11;round 11;", 4);
+    }
+
+    // A text with something of everything, good or with an error at its end, and then a short one.
+    private static void loadAgain() {
+        Sentence replaces = Sentence.of(4, "replaces the match by the one that it describes");
+        String full = "round 12 23,34 45,56 66;".repeat(4)
+                + "left 0;left 1;pass;left 2;next;right 0;right 1;pass;right 2;next;pass;pass;next;left 2;pass;pass;";
+        for (String text : new String[] {full, full + "pass", full + "round", "round 12 23 34,45 56 61,13 33 36;x"}) {
+            for (String then : new String[] {"round 12,34;round 56;", "round 12 23;round 34 45;pass;left 0;next;"}) {
+                replaces.same(text + " and then " + then,
+                        View.whole(Start.fresh().typing(text).trying(LOAD).typing(then).then(LOAD)),
+                        View.whole(Start.text(then)));
+            }
+        }
     }
 
     private static void loadInError() {

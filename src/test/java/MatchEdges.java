@@ -326,6 +326,11 @@ final class MatchEdges {
                 .tells("0 to 0 after 3 to 3", afterFirst(EVEN, "next;pass;pass;next;"), player, 0)
                 .tells("0 to 0 after 4 to 3", afterFirst(LEAD, "next;pass;pass;next;"), player, 1)
                 .tells("0 to 0 after 3 to 4", afterFirst(BEHIND, "next;pass;pass;next;"), player, 0)
+                .tells("0 to 0 after 4 to 3, by a call", afterFirst(LEAD, "next;pass;pass;").then(NEXT), player, 1)
+                .tells("0 to 0 after 3 to 0 was undone", pairs(2, "").then(game -> game.burn(0, true), NEXT,
+                        game -> game.undo(), game -> game.undo(), PASS, PASS, NEXT), player, 0)
+                .tells("0 to 0 after 3 to 0 gave way to a saved state", pairs(2, "").then(game -> game.save(),
+                        game -> game.burn(0, true), NEXT, game -> game.restore(), PASS, PASS, NEXT), player, 0)
                 .tells("a round without moves, begun by 1",
                         Start.text("round 12 23;" + ONE + "round 12 23;left 0;next;next;"), player, 1);
     }

@@ -5,7 +5,8 @@ final class OptimalEdges {
     private static final Start ONE = Start.text("round 11;");
     private static final Start BURNT = Start.text("round 12 23;left 0;");
     private static final Start PASSED = Start.text("round 36 66 61;pass;pass;");
-    private static final Start[] OVER = {ONE, BURNT, PASSED, Start.text("round 11,22;round 12 23;")};
+    private static final Start[] OVER = {ONE, BURNT, PASSED, Start.text("round 11,22;round 12 23;"),
+        Start.text("round 12 23;pass;pass;")};
     // Scores 3 and 5: the moves are worth 3, 5 and -5, and after a pass 3, 5 and 0.
     private static final Start TWO = Start.text("round 12 23;");
     private static final Start TWO_PASS = Start.text("round 12 23;pass;");
@@ -16,6 +17,10 @@ final class OptimalEdges {
     private static final Start STUCK_PASS = Start.text("round 36 66 61;pass;");
     // Scores 4, 3, 4: all moves are worth 0.
     private static final Start EVEN = Start.text("round 13 30 04;");
+    // The most tiles that a round can have; what is due is what the reference answers.
+    private static final Start MOST = Start.text("round 20 00 01 16 65 50 06 63,44 46 62 22 21 11 15 53,"
+            + "54 41 13 32 24 40 03 33;");
+    private static final Start EIGHT = Start.text("round 11,22 23,00 01 13 34 42 25 56 66;");
     private static final Start MANY = Start.text("round 12 23 33, 36 66 61, 44 45 50 06;");
 
     private OptimalEdges() {
@@ -35,6 +40,7 @@ final class OptimalEdges {
         optimalLineScore();
         chainDifference();
         expectedLead();
+        mostTiles();
     }
 
     private static void whenOver(Sentence sentence, Start.Step step, Object want) {
@@ -309,5 +315,30 @@ final class OptimalEdges {
                 .tells("over by passes", Start.text("round 36 66 61;left 0;pass;pass;"), lead, -9)
                 .tells("one pass before", Start.text("round 36 66 61;left 0;pass;"), lead, 9 + 24)
                 .tells("in the present round alone", Start.text("round 66 61;round 12 23;left 0;next;"), lead, 5);
+    }
+
+    private static void mostTiles() {
+        Sentence.of(41, "Returns the optimal difference of the position")
+                .tells("three chains of 8", MOST, game -> game.optimalDifference(), 10)
+                .tells("chains of 1, 2 and 8", EIGHT, game -> game.optimalDifference(), 16);
+        Sentence.of(42, "Returns the value of a move")
+                .each("three chains of 8", MOST, (game, move) -> game.moveValue(move), -6, 0, 10, -2, 0, 2, -10)
+                .each("chains of 1, 2 and 8", EIGHT, (game, move) -> game.moveValue(move), -10, -13, -17, 16, -16);
+        Sentence.of(44, "Returns the first move with the lowest value")
+                .tells("three chains of 8", MOST, game -> game.worstMove(), 6)
+                .tells("chains of 1, 2 and 8", EIGHT, game -> game.worstMove(), 2);
+        Sentence.of(48, "Returns the score that a move of the optimal line brings")
+                .each("three chains of 8", MOST, (game, index) -> game.optimalLineScore(index),
+                        16, 12, 10, 9, 9, 8, 6, 8, 8, 6, 5, 4, 4, 5, 6, 4, 2, 5, 11, 7, 1)
+                .each("chains of 1, 2 and 8", EIGHT, (game, index) -> game.optimalLineScore(index),
+                        24, 11, 8, 7, 6, 7, 4, 1);
+        Sentence.of(48, "if the line has no such move")
+                .refusesBeyond("three chains of 8", MOST, (game, index) -> game.optimalLineScore(index), 21,
+                        Sentence.INDEX)
+                .refusesBeyond("chains of 1, 2 and 8", EIGHT, (game, index) -> game.optimalLineScore(index), 8,
+                        Sentence.INDEX);
+        Sentence.of(49, "Returns the optimal difference for the player who moves first")
+                .each("three chains of 8", MOST, (game, chain) -> game.chainDifference(chain), 5, 12, 7)
+                .each("chains of 1, 2 and 8", EIGHT, (game, chain) -> game.chainDifference(chain), 0, 8, 18);
     }
 }
