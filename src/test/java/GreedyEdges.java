@@ -24,6 +24,8 @@ final class GreedyEdges {
         greedyDifference();
         differenceAgainstGreedy();
         greedyAgainstBest();
+        equalEnds();
+        roundBefore();
     }
 
     private static void whenOver(Sentence sentence, Start.Step step) {
@@ -124,5 +126,32 @@ final class GreedyEdges {
                 .tells("the opponent burns all along", Start.text("round 12 23,36 66 61;"), difference, 9 - 24 + 5)
                 .tells("the opponent passes", Start.text("round 36 66 61,55 50;"), difference, 20 + 9 - 24);
         whenOver(Sentence.of(54, "0 if the round is over"), difference);
+    }
+
+    // Which of two equal ends the greedy player burns makes a difference here; due is the reference's answer.
+    private static void equalEnds() {
+        Sentence.terms("among several such moves the player chooses the first one in the order of moves")
+                .tells("left ends of two chains", Start.text("round 52 22 23 31,16 60;"),
+                        game -> game.greedyAgainstBest(), 1)
+                .tells("a right end and a left end", Start.text("round 62 24,53 36 61 15;"),
+                        game -> game.greedyAgainstBest(), 1)
+                .tells("both ends of a chain", Start.text("round 14 44 43 30 02 23;"),
+                        game -> game.greedyAgainstBest(), -6)
+                .tells("both ends of a chain that is ahead", Start.text("round 51 10 02 23 34 42;"),
+                        game -> game.greedyAgainstBest(), 4);
+    }
+
+    // What was found out for a round may not be told of the next one, nor the other way round.
+    private static void roundBefore() {
+        Start two = Start.text("round 12 23;round 36 66 61;");
+        Start.Step ask = game -> game.differenceAgainstGreedy();
+        Start.Step burn = game -> game.burn(0, true);
+        Start next = two.then(ask, burn, game -> game.startNextRound());
+        Sentence.of(53, "if the opponent is greedy;")
+                .tells("the round before", two, ask, 5)
+                .tells("the next round", next, ask, 24 - 9)
+                .tells("the round before, undone", next.then(ask, game -> game.undo(), game -> game.undo()), ask, 5);
+        Sentence.of(54, "reaches the highest final difference that is possible against a greedy player;")
+                .tells("the next round", next, game -> game.greedyAgainstBest(), 9 - 24);
     }
 }

@@ -7,6 +7,7 @@ final class MoveEdges {
     private static final Start SEVEN = Start.text("round 12 23, 45 56, 33 30;");
     private static final Start[] OVER = {Start.text("round 11;"), Start.text("round 12 23;left 0;"),
         Start.text("round 12 23;pass;pass;"), Start.text("round 11,22;round 12 23;")};
+    private static final Start SECOND = Start.text("round 66 61,55 54,44 43;round 12 23;pass;pass;next;");
     private static final String LONGEST = "round 00 01 11 12 22 23 33 30, 02 24 44 40 05 55 51 14, "
             + "06 66 61 13 34 45 52 26;";
 
@@ -182,6 +183,7 @@ final class MoveEdges {
         Sentence.of(33, "Returns the score of the tile;")
                 .each("of 0 and 24", Start.text("round 00 06 66;"), score, 0, 24, 0);
         Sentence.of(33, "0 for the pass")
+                .each("of the second round", SECOND, score, 3, 5, 0)
                 .each("of 3", Start.text("round 12 23;pass;"), score, 3, 5, 0);
         Sentence.moves(33, FIVE, score, 3, 5, 5, 6, 0);
         refusedWhenOver(33, score);
@@ -234,6 +236,7 @@ final class MoveEdges {
         Sentence.of(35, "Returns the score of the tile;")
                 .each("of 0 and 24", Start.text("round 00 06 66;left 0;right 0;"), score, 0, 24);
         Sentence.of(35, "0 for a pass")
+                .each("of the second round", SECOND.then(game -> game.pass()), score, 0)
                 .each("after a burn", Start.text("round 12 23 34;left 0;pass;"), score, 3, 0)
                 .each("two passes", Start.text("round 12 23;pass;pass;"), score, 0, 0);
         indexOfLog(35, score, 0, 11, 3);

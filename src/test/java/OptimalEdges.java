@@ -263,6 +263,7 @@ final class OptimalEdges {
         Sentence.of(48, "Returns the score of the tile;")
                 .each("a double", Start.text("round 66 61;"), score, 24);
         Sentence.of(48, "0 for a pass")
+                .each("in the second round", Start.text("round 66,55,44;round 36 66 61;next;"), score, 0, 0)
                 .each("two passes", STUCK, score, 0, 0)
                 .each("one pass", STUCK_PASS, score, 0);
         Sentence none = Sentence.of(48, "Throws `IndexOutOfBoundsException` if the line has no such move")

@@ -30,6 +30,7 @@ final class TextEdges {
         invalidPips();
         mismatch();
         duplicates();
+        everyTileTwice();
         tooMany();
         invalidMoves();
     }
@@ -58,6 +59,13 @@ final class TextEdges {
             word.errs("round" + sign(other) + "12;", SYNTAX, 5).errs("round 12 23;left" + sign(other), SYNTAX, 16);
         }
         word.loads("round12;", 1).errs("Round 12;", SYNTAX, 0).errs("rounD 12;", SYNTAX, 0);
+        for (String known : new String[] {"round", "left", "right", "pass", "next"}) {
+            for (int i = 0; i < known.length(); i++) {
+                String other = known.substring(0, i) + (char) (known.charAt(i) - 1) + known.substring(i + 1);
+                word.errs(known.equals("round") ? other + " 12;" : "round 12 23;" + other + " 0;", SYNTAX,
+                        known.equals("round") ? 0 : 12);
+            }
+        }
         word.errs("roun 12;", SYNTAX, 0).errs("ro und 12;", SYNTAX, 0).errs("roundround 12;", SYNTAX, 0);
     }
 
@@ -262,6 +270,23 @@ final class TextEdges {
                 .errs("round 12,34,45 53 34;", DUPLICATE, 18).errs("round 66,65,56;", DUPLICATE, 12)
                 .errs("round 00 01,33,10;", DUPLICATE, 15).loads("round 12;round 12;", 2).loads("round 12;round 21;", 2)
                 .errs("round 12;round 21 12;", DUPLICATE, 18).loads("round 12 22 23;", 1).loads("round 56,66,55;", 1);
+    }
+
+    private static void everyTileTwice() {
+        Sentence twice = Sentence.terms("DUPLICATE_TILE: a tile that occurs earlier in the same round");
+        for (int left = 0; left <= 6; left++) {
+            for (int right = left; right <= 6; right++) {
+                String tile = left + "" + right;
+                String swapped = right + "" + left;
+                twice.errs("round " + tile + "," + tile + ";", DUPLICATE, 9)
+                        .errs("round " + tile + "," + swapped + ";", DUPLICATE, 9)
+                        .errs("round " + swapped + "," + tile + ";", DUPLICATE, 9)
+                        .errs("round " + swapped + " " + tile + ";", DUPLICATE, 9)
+                        .loads("round " + tile + ";round " + tile + ";", 2)
+                        .loads("round " + tile + ";round " + swapped + ";", 2)
+                        .loads("round " + swapped + ";round " + tile + ";", 2);
+            }
+        }
     }
 
     private static void tooMany() {
