@@ -104,6 +104,14 @@ final class InputEdges {
                         "throws IllegalArgumentException")
                 .answers("none is cut off", Start.fresh().typing("round 12;x").then(truncate(10)), LOAD,
                         "throws IllegalArgumentException")
+                .answers("a cut in a run of digits", Start.fresh().typing("round 123").then(truncate(8)).trying(LOAD),
+                        game -> game.errorPosition(), 8)
+                .answers("a cut in a tile", Start.fresh().typing("round 12").then(truncate(7)).trying(LOAD),
+                        game -> game.errorPosition(), 6)
+                .answers("a cut in a word", Start.fresh().typing("rounds").then(truncate(5)).trying(LOAD),
+                        game -> game.errorPosition(), 5)
+                .answers("a cut before blanks", Start.fresh().typing("round   ").then(truncate(6)).trying(LOAD),
+                        game -> game.errorPosition(), 6)
                 .answers("what is cut off does not come back",
                         held(0).typing("round 12;x").then(truncate(9), APPEND), LOAD, 1);
         Sentence range = Sentence.of(3, "- `length`: the new length, 0 to the present length");
